@@ -948,6 +948,7 @@ public final class RumourBrew {
         private final int[] tells = new int[DRINKERS];
         private int[] now = new int[DRINKERS];
         private int[] next = new int[DRINKERS];
+        private int everybody = 0;
         private int whom = 0;
         private int believers = 0;
         private int reached = 0;
@@ -990,6 +991,7 @@ public final class RumourBrew {
 
         /** Each DRINKER passes on once, so nothing comes to anybody later than in step DRINKERS. */
         void spread(int about, int strong, int some) {
+            everybody = town.everybody();
             whom = about;
             believers = 0;
             reached = 0;
@@ -1058,7 +1060,7 @@ public final class RumourBrew {
             if (strong <= 0) {
                 return 0;
             }
-            int hearers = kinds[drinker] == RAT ? town.everybody() & ~(1 << drinker) : tells[drinker];
+            int hearers = kinds[drinker] == RAT ? everybody & ~(1 << drinker) : tells[drinker];
             for (int hearer = 0; hearer < town.drinkers; hearer++) {
                 if ((hearers >> hearer & 1) != 0) {
                     next[hearer] = Math.max(next[hearer], strong);

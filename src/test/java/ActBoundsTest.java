@@ -406,6 +406,18 @@ public final class ActBoundsTest extends Cases {
         due("day 8", x.days(1), 15);
     }
 
+    static void promise11_nothingButCasksIsOff() {
+        RumourBrew x = in("o0,1,0;d0,0;d0,0;d0,0;d0,0;d0,0;d0,0;");
+        for (int cask = 0; cask < 4; cask++) {
+            x.brew(0, 20);
+        }
+        for (int d = 0; d < 6; d++) {
+            x.tap(0, d);
+        }
+        due("all MALT and notes, none OFF", x.days(1), 0);
+        due("all four", x.days(1), 15);
+    }
+
     static void promise11_missingCasksAreNotOff() {
         RumourBrew x = in("o0,1,0;d0,0;");
         due("none", x.days(24), 0);

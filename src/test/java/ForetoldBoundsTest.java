@@ -197,6 +197,16 @@ public final class ForetoldBoundsTest extends Cases {
         }
     }
 
+    static void promise18_eachHearsThoseAloneWhoTellIt() {
+        // in one step the gossip gives 5 to 2 (DOUBT 5), the plain one 3 to 3 (DOUBT 4)
+        RumourBrew x = in("o0,9,1;g0,0;d0,1;d5,2;d4,3;b0,0;t0,2;t1,3;");
+        x.brew(4, 4);
+        telling(x, 0, 3, 7, 15, 1, 4);
+        RumourBrew turned = in("o0,9,1;d0,0;g0,1;d4,2;d5,3;b0,0;t0,2;t1,3;");
+        turned.brew(4, 4);
+        telling(turned, 0, 3, 11, 15, 1, 4);
+    }
+
     static void promise18_noStepsAndMostSteps() {
         RumourBrew x = in("o0,9,9;d0,0;d0,1;d0,2;d0,3;d0,4;d0,5;t0,1;t1,2;t2,3;t3,4;t4,5;t5,0;");
         x.brew(5, 20);
@@ -1090,7 +1100,7 @@ public final class ForetoldBoundsTest extends Cases {
         due("nothing changes", x.count(6), 4);
     }
 
-    /** Cask 3 alone, of 0; seed 999999 taps it at 1 on the third day, when it is 2 DAYS old. */
+    /** Cask 3 alone, of 0: seed 999999 taps it at 1 on the third day, when it is 2 DAYS old; before, a missing one. */
     private static int notesByTheThirdDay(String text) {
         RumourBrew x = in(text);
         for (int cask = 0; cask < 4; cask++) {
@@ -1105,10 +1115,34 @@ public final class ForetoldBoundsTest extends Cases {
     }
 
     static void promise27_agesPassWithTheDays() {
-        due("KEEPS 1: OFF", notesByTheThirdDay("o0,1,1;d1,0;d1,1;"), 0);
-        due("KEEPS 2: not OFF", notesByTheThirdDay("o0,2,1;d1,0;d1,1;"), 1);
-        due("OAK 3: young", notesByTheThirdDay("o3,9,1;d1,0;d9,1;"), 0);
-        due("OAK 2: OAK old", notesByTheThirdDay("o2,9,1;d1,0;d9,1;"), 1);
+        due("KEEPS 1: OFF", notesByTheThirdDay("o0,1,1;d0,0;d1,1;"), 0);
+        due("KEEPS 2: not OFF", notesByTheThirdDay("o0,2,1;d0,0;d1,1;"), 1);
+        due("OAK 3: young", notesByTheThirdDay("o3,9,1;d0,0;d9,1;"), 0);
+        due("OAK 2: OAK old", notesByTheThirdDay("o2,9,1;d0,0;d9,1;"), 1);
+    }
+
+    static void promise27_missingCasksAreNotTapped() {
+        // X is 16807, 282475249, 1622650073, 984943658: casks 3, 1, 1, 2
+        RumourBrew x = in(APART);
+        x.brew(0, 20);
+        due("notes", x.drawn(4, 1, 0), 0);
+        due("malt", x.drawn(4, 1, 1), 20);
+        x.brew(0, 20);
+        due("notes, at 1 and at 5", x.drawn(4, 1, 0), 2);
+        due("malt", x.drawn(4, 1, 1), 38);
+        x.blend(1, 0);
+        due("missing again", x.drawn(4, 1, 1), 20);
+        due("no notes", x.drawn(4, 1, 0), 0);
+    }
+
+    static void promise27_oneDrinker() {
+        RumourBrew x = in("o0,40,1;d0,0;");
+        for (int cask = 0; cask < 4; cask++) {
+            x.brew(0, 20);
+        }
+        due("notes", x.drawn(1, 1, 0), 1);
+        due("malt", x.drawn(1, 1, 1), 79);
+        due("malt", x.drawn(5, 1, 1), 75);
     }
 
     static void promise27_offIsTappedToo() {

@@ -193,6 +193,9 @@ public final class ModelTest {
                 return random.nextInt(4) == 0 ? random.nextInt(42) : 4 + random.nextInt(9);
             case "set1": case "copy1": case "copy3": case "copy4": case "malts2": case "who3":
                 return random.nextInt(8);
+            case "brew0": case "tap1": case "drinker0": case "rumour0": case "silence1": case "silence2": case "who0":
+            case "blended2": case "silent1": case "silent2": case "kind0": case "as0": case "ask0":
+                return random.nextInt(random.nextInt(4) == 0 ? 7 : 5);
             case "set2":
                 return random.nextInt(8) == 0 ? random.nextInt(70000) - 35000
                         : random.nextBoolean() ? random.nextInt(5) : random.nextInt(64);
@@ -207,15 +210,15 @@ public final class ModelTest {
             case "fewest1": case "fewest2":
                 return random.nextInt(3) == 0 ? random.nextInt(64) : 1 << random.nextInt(6);
             case "silent3":
-                return random.nextInt(11);
+                return random.nextInt(12);
             case "drawn0":
                 return random.nextInt(62);
             case "drawn1":
-                return random.nextInt(1000001);
+                return random.nextInt(8) == 0 ? random.nextInt(2) * 999999 + random.nextInt(2) : random.nextInt(1000001);
             case "count0":
                 return random.nextInt(9);
             case "trace0":
-                return random.nextInt(8);
+                return random.nextInt(random.nextInt(4) == 0 ? 18 : 8);
             case "image0": case "restore0":
                 return random.nextInt(9) / 4;
             case "as1":
