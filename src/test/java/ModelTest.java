@@ -18,7 +18,7 @@ import java.util.regex.Pattern;
  * is written with the Java library and by other ways: every answer has to be the same.
  */
 public final class ModelTest {
-    private static final int RUNS = 1000, CALLS = 511;
+    private static final int RUNS = 1000, CALLS = 512;
     private static final int NONE = -1000000, BAD = -1000001, STATE = -1000002, FULL = -1000003;
     private static final String[] CALL_NAMES = {"row", "set", "copy", "drop", "feed", "town", "fault", "undo", "brew",
         "days", "tap", "water", "blend", "cask", "drinker", "rumour", "telling", "fewest", "silence", "malts", "who",
